@@ -54,6 +54,7 @@ public final class PromiseTest {
         promise12Greases();
         promise13Undo();
         promise13UndoKnowsTen();
+        promise13UndoDropsOldest();
         promise14Time();
         promise14Bends();
         promise15Place();
@@ -467,6 +468,30 @@ public final class PromiseTest {
         due("promise 13: one is known", x.now(6), 1);
     }
 
+    private static void promise13UndoDropsOldest() {
+        ChairRegents x = told("lf;c1 0;c1 0;c1 0;");
+        x.sets(0, 1);
+        x.tuesday();
+        x.changes(0, 2);
+        x.sets(1, 2);
+        x.greases(2, 1);
+        x.sets(1, 3);
+        x.changes(1, 2);
+        x.tuesday();
+        x.greases(0, 1);
+        x.sets(2, 5);
+        x.greases(1, 1);
+        for (int i = 9; i >= 0; i--) due("promise 13: deeds of all kinds", x.undo(), i);
+        int[] handicaps = {1, 0, 0};
+        for (int c = 0; c < 3; c++) {
+            due("promise 13: pusher of " + c, x.chair(c, 2), c);
+            due("promise 13: handicap of " + c, x.chair(c, 3), handicaps[c]);
+            due("promise 13: grease of " + c, x.chair(c, 4), 0);
+            due("promise 13: regent " + c, x.chair(c, 6), 0);
+        }
+        due("promise 13: weeks", x.now(0), 0);
+    }
+
     private static void promise14Time() {
         ChairRegents x = told(THREE);
         for (int c = 0; c < 3; c++) due("promise 14: time(" + c + ")", x.time(c), 5);
@@ -532,6 +557,9 @@ public final class PromiseTest {
         due("promise 16: no chair", x.alone(2), BAD);
         due("promise 16: below 0", x.alone(-1), BAD);
         due("promise 16: no race", told("c1 0;").alone(0), STATE);
+        write(x, "ld;c8 0;");
+        x.spa();
+        due("promise 16: on a promenade told anew", x.alone(0), 1);
     }
 
     private static void promise17King() {
@@ -581,6 +609,7 @@ public final class PromiseTest {
         due("promise 18: no chair", x.fair(3), BAD);
         due("promise 18: below -1", x.fair(-2), BAD);
         due("promise 18: no race", told("c1 0;").fair(0), STATE);
+        due("promise 18: no race without chairs", told("lf;").fair(-1), STATE);
         ChairRegents one = told("lf;c1 0;");
         due("promise 18: one alone", one.fair(-1), 0);
         due("promise 18: one alone", one.fair(0), 0);
@@ -609,6 +638,10 @@ public final class PromiseTest {
         due("promise 19: what below 0", x.odds(0, 1, -1), BAD);
         due("promise 19: no chair", x.odds(2, 1, 0), BAD);
         due("promise 19: no race", told("c1 0;").odds(0, 1, 0), STATE);
+        // Chair 0's ill pusher needs 4 minutes, chair 1's well one 2, so chair 1 wins by just that.
+        ChairRegents weak = told("lf;c1 0;c8 0;");
+        due("promise 19: strength of the ill is 1", weak.odds(0, 5, 0), 3);
+        due("promise 19: strength of the ill is 1", weak.odds(1, 5, 1), 4);
         ChairRegents five = told("lf;c1 0;c1 0;c1 0;c1 0;c1 0;");
         due("promise 19: five, the last", five.odds(4, 1, 0), 9);
         due("promise 19: five, the last", five.odds(4, 1, 1), 100000);

@@ -86,8 +86,8 @@ public final class ChairRegents {
             case 1: return told.hasRace() ? forecast.winner() : NONE;
             case 2: return told.hasRace() ? forecast.kings() : 0;
             case 3: return today.ruledMost(told);
-            case 4: return told.hasRace() ? stopwatch.guilty(told, today) : 0;
-            case 5: return told.hasRace() ? stopwatch.doubtful(told, today) : 0;
+            case 4: return told.hasRace() ? stopwatch.suspects(true, told, today) : 0;
+            case 5: return told.hasRace() ? stopwatch.suspects(false, told, today) : 0;
             case 6: return deeds.size;
             default: return BAD;
         }
@@ -440,7 +440,7 @@ public final class ChairRegents {
 
         private boolean readPromenade(Spa draft) {
             readToken();
-            while (costOfToken() > 0 && draft.cellCount < MOST_CELLS) {
+            for (int k = 0; k < MOST_CELLS && costOfToken() > 0; k++) {
                 draft.addCell(costOfToken());
                 readToken();
             }
@@ -820,18 +820,12 @@ public final class ChairRegents {
             size++;
         }
 
-        int guilty(Spa told, Day today) {
+        /** Chairs, as bits, not all as if dry: the guilty are all as if greased, the doubtful not. */
+        int suspects(boolean isGuilty, Spa told, Day today) {
             int bits = 0;
             for (int c = 0; c < told.chairCount; c++) {
-                if (isAllAsIf(true, told, today, c) && !isAllAsIf(false, told, today, c)) bits |= 1 << c;
-            }
-            return bits;
-        }
-
-        int doubtful(Spa told, Day today) {
-            int bits = 0;
-            for (int c = 0; c < told.chairCount; c++) {
-                if (!isAllAsIf(true, told, today, c) && !isAllAsIf(false, told, today, c)) bits |= 1 << c;
+                boolean isAsDry = isAllAsIf(false, told, today, c);
+                if (!isAsDry && isAllAsIf(true, told, today, c) == isGuilty) bits |= 1 << c;
             }
             return bits;
         }
