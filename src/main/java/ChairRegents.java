@@ -674,7 +674,7 @@ public final class ChairRegents {
         }
 
         int spreadFor(int goal) {
-            int least = Integer.MAX_VALUE;
+            int least = LATEST_ALONE;
             int most = 0;
             for (int c = 0; c < told.chairCount; c++) {
                 int minutes = unhindered[c] + handicapFor(goal, c);
