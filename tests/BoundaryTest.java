@@ -423,13 +423,18 @@ public final class BoundaryTest {
     private static void undone() {
         test("UNDONE: none", "undo = STATE, now 6 = 0, told c1 0; = 1, undo = STATE, now 6 = 0");
         test("UNDONE: one", "told c1 0; = 1, sets 0 1 = 0, now 6 = 1, undo = 0, chair 0 3 = 0, undo = STATE");
-        test("10 are known: nine", deeds(9) + ", now 6 = 9, " + undos(9) + ", chair 0 3 = 0, undo = STATE");
-        test("10 are known: ten", deeds(10) + ", now 6 = 10, " + undos(10) + ", chair 0 3 = 0, undo = STATE");
-        test("older ones are lost: eleven", deeds(11) + ", now 6 = 10, " + undos(10) + ", chair 0 3 = 1, undo = STATE, chair 0 3 = 1");
-        test("older ones are lost: twelve", deeds(12) + ", now 6 = 10, " + undos(10) + ", chair 0 3 = 2, undo = STATE, chair 0 3 = 2");
-        test("older ones are lost: thirty", deeds(30) + ", now 6 = 10, " + undos(10) + ", chair 0 3 = 2, undo = STATE");
+        test("10 are known: nine", deeds(9) + ", now 6 = 9, " + undosOfDeeds(9) + ", chair 0 3 = 0, undo = STATE");
+        test("10 are known: ten", deeds(10) + ", now 6 = 10, " + undosOfDeeds(10) + ", chair 0 3 = 0, undo = STATE");
+        test("older ones are lost: eleven", deeds(11) + ", now 6 = 10, " + undosOfDeeds(11) + ", undo = STATE, chair 0 3 = 1");
+        test("older ones are lost: twelve", deeds(12) + ", now 6 = 10, " + undosOfDeeds(12) + ", undo = STATE, chair 0 3 = 2");
+        test("older ones are lost: thirty", deeds(30) + ", now 6 = 10, " + undosOfDeeds(30) + ", undo = STATE, chair 0 3 = 2");
+        test("older ones are lost: the others stay as they are", "told lf;c1 0;c1 0;c1 0; = 4, sets 0 1 = 0, sets 1 1 = 0, sets 2 1 = 0",
+            "greases 0 1 = 1, changes 0 1 = 1, tuesday = 0, greases 1 1 = 2, sets 2 4 = 1, changes 1 2 = 2, greases 2 1 = 3, sets 1 5 = 1",
+            "undo = 9, chair 1 3 = 1, undo = 8, chair 2 4 = 0, undo = 7, chair 1 2 = 0, chair 2 2 = 2, undo = 6, chair 2 3 = 1",
+            "undo = 5, chair 1 4 = 0, undo = 4, now 0 = 0, chair 0 6 = 0, undo = 3, chair 0 2 = 0, chair 1 2 = 1, undo = 2, chair 0 4 = 0",
+            "undo = 1, chair 2 3 = 0, undo = 0, chair 1 3 = 0, undo = STATE, chair 0 3 = 1");
         test("that was not refused", deeds(10) + ", sets 0 6 = BAD, sets 0 4 = STATE, greases 0 0 = STATE, changes 0 0 = BAD",
-            "tuesday = STATE, now 6 = 10, " + undos(10) + ", chair 0 3 = 0, undo = STATE");
+            "tuesday = STATE, now 6 = 10, " + undosOfDeeds(10) + ", undo = STATE");
         test("UNDONE: what was undone can't be again", "told c1 0; = 1, sets 0 3 = 0, sets 0 5 = 3, undo = 1, chair 0 3 = 3",
             "sets 0 1 = 3, now 6 = 2, undo = 1, chair 0 3 = 3, undo = 0, chair 0 3 = 0, undo = STATE");
         test("the latest tuesday(), changes(), sets(), greases(): nothing else",
@@ -443,6 +448,16 @@ public final class BoundaryTest {
         StringBuilder steps = new StringBuilder("told c1 0; = 1");
         for (int n = 1; n <= many; n++) {
             steps.append(", sets 0 ").append(n % 6).append(" = ").append((n - 1) % 6);
+        }
+        return steps.toString();
+    }
+
+    /** As many as are known, with the handicap as it was ahead of each. */
+    private static String undosOfDeeds(int done) {
+        int known = Math.min(10, done);
+        StringBuilder steps = new StringBuilder("chair 0 3 = " + done % 6);
+        for (int left = known - 1; left >= 0; left--) {
+            steps.append(", undo = ").append(left).append(", chair 0 3 = ").append((done - known + left) % 6);
         }
         return steps.toString();
     }
@@ -507,6 +522,10 @@ public final class BoundaryTest {
         // Chair 3 wins where it and chair 4 have pushers 1 and 2, and chair 0 has 3 or 4: 30412 is the first way.
         test("KING: how many have another one: all five", "told lb;c1 0;c5 0;c9 0;c9 0;c9 0;p1 9;p2 9;p3 1;p4 1; = 10",
             "king 3 -1 = 5, king 3 0 = 3, king 3 1 = 0, king 3 2 = 4, king 3 3 = 1, king 3 4 = 2");
+        // Chair 4 wins in minute 2 where nobody else is in by then: by 43210 alone, the last way of all.
+        test("of all ways to give PUSHERS to CHAIRS: the last way", "told lf;c5 0;c4 0;c9 0;c9 0;c5 0;p0 7;p1 6;p2 5;p3 2;p4 3; = 11, sets 3 1 = 0",
+            "sets 4 1 = 0, king 4 -1 = 4, king 4 0 = 4, king 4 1 = 3, king 4 2 = 2, king 4 3 = 1, king 4 4 = 0, now 2 = 31");
+        test("of all ways to give PUSHERS to CHAIRS: the first way", five + "changes 0 4 = 4, king 4 -1 = 2, king 4 0 = 0, king 4 4 = 4, king 4 1 = 1");
         test("KINGS: all", five + "now 2 = 31");
         // Greased, chair 4 is in in minute 4 by a pusher of strength 1; nobody else is ahead of minute 6.
         test("KINGS: one", five + "greases 4 1 = 1, sets 0 5 = 0, sets 1 5 = 0, sets 2 5 = 0, sets 3 5 = 0, now 2 = 16, king 0 -1 = NONE, king 3 4 = NONE");
@@ -626,6 +645,8 @@ public final class BoundaryTest {
         test("THE TEXT tells all anew: nothing", used + "spa = 0, count 0 = 0, count 1 = 0, count 2 = 0, now 0 = 0, back 0 = STATE, chair 0 0 = BAD, cell 0 = BAD");
         test("THE TEXT tells all anew: fewer, then more", "told " + FIVE + "p4 9; = 6, sets 4 5 = 0, greases 4 1 = 1, told c1 0; = 1, chair 1 0 = BAD",
             "told " + FIVE + " = 5, chair 4 3 = 0, chair 4 4 = 0, chair 4 5 = 9, pusher 4 = 5");
+        test("THE TEXT tells all anew: a shorter way", "told luuu;c9 0; = 2, alone 0 = 24, time 0 = 24, told lf;c9 0; = 2, alone 0 = 4, time 0 = 4",
+            "told luu = -13, alone 0 = 4, told lf;c9 0; = 2, alone 0 = 4, fair -1 = 0, told lf; = 1, told c9 0;lf; = 2, alone 0 = 4");
         test("-10 less FAULT: nothing changes", used + "told lu;c9 3;c9 3;c9 3;p0 1;; = -33, count 3 = 24, count 0 = 1, cell 0 = 4, count 1 = 2, chair 0 0 = 1",
             "chair 0 1 = 0, pusher 0 = 9, chair 0 2 = 1, chair 0 3 = 5, chair 1 4 = 1, now 0 = 1, count 2 = 1, now 6 = 4, undo = 3, chair 1 4 = 0, back 1 = 1, back 0 = 1",
             "alone 0 = 6, trace = 1");

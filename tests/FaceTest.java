@@ -7,6 +7,7 @@ import java.nio.file.Path;
 import java.util.Arrays;
 import java.util.Set;
 import java.util.TreeSet;
+import java.util.regex.Matcher;
 import java.util.regex.Pattern;
 
 /** The public face, and what reflection and a look at the source can tell of LANGUAGE.md. */
@@ -19,6 +20,8 @@ public final class FaceTest {
         "int odds(int,int,int)", "int times(int,int)", "int forget()", "int rate(int,int)", "int keep(int)",
         "int back(int)", "int count(int)", "long trace()"));
     private static final Set<String> CONSTANTS = new TreeSet<>(Arrays.asList("BAD", "STATE", "FULL", "NONE", "NO"));
+    private static final Set<String> LIBRARY = new TreeSet<>(Arrays.asList("Math.max", "Math.min", "System.arraycopy",
+        "Deeds.TUESDAY", "Deeds.CHANGE", "Deeds.SET", "Deeds.GREASE"));
     private static int wrong = 0;
 
     private static void check(boolean holds, String what) {
@@ -105,6 +108,8 @@ public final class FaceTest {
         for (String word : banned) {
             check(!Pattern.compile("\\b" + word + "\\b").matcher(code).find(), "nothing of '" + word + "' in the source");
         }
+        Matcher outside = Pattern.compile("\\b[A-Z]\\w*[.][a-zA-Z]\\w*").matcher(code);
+        while (outside.find()) check(LIBRARY.contains(outside.group()), "of the library, or its own: " + outside.group());
         check(!code.contains("->") && !code.contains("::"), "no lambda, no method reference");
         check(code.chars().allMatch(sign -> sign < 128), "plain signs alone");
         String[] lines = code.split("\n");
