@@ -270,7 +270,7 @@ public final class BoundaryTest {
             "told c1 0x; = -14, told c1 0;px 1; = -16, told c1 0;p0x1; = -17, told c1 0;x = -15");
         test("of any other letter: large ones", "told L = -10, told C1 0; = -10, told lF; = -11, told c1 0;P0 1; = -15");
         test("of any other letter: signs ahead of a NUMBER", "told c-1 0; = -11, told c+1 0; = -11, told c1 -0; = -13");
-        test("a fault is told again, as the text stays", "told c = -11, spa = -11, type 49 = 2, spa = -12, count 3 = 2");
+        test("-10 less FAULT: nothing changes: it is told again, as the text stays", "told c = -11, spa = -11, type 49 = 2, spa = -12, count 3 = 2");
     }
 
     /** A NUMBER too large for where it stands, each time in the four places where one may stand. */
@@ -309,6 +309,8 @@ public final class BoundaryTest {
             write(x, begun);
             due("'the text's length, if it ends too early': " + begun, x.spa(), isWhole ? items : -10 - length);
         }
+        test("the text's length, if it ends too early: nothing of an earlier text is read", "told c1 00; = -13, told c1 0 = -14, told c10 = -11, told c1 = -12");
+        test("the text's length, if it ends too early: the longest, with a NUMBER", "told c1" + " ".repeat(117) + "0 = -130, count 3 = 120");
         test("the text's length, if it ends too early: the longest", "told c1" + " ".repeat(118) + " = -130");
     }
 
@@ -347,7 +349,7 @@ public final class BoundaryTest {
         test("HANDICAP (0 .. 5; 0 at first): at first", "told " + FIVE + " = 5",
             "chair 0 3 = 0, chair 1 3 = 0, chair 2 3 = 0, chair 3 3 = 0, chair 4 3 = 0");
         for (int h = 1; h <= 5; h++) {
-            test("minutes by which it starts later; whose HANDICAP is less than the minute", "told lff;c6 0; = 2, time 0 = 2",
+            test("whose HANDICAP is less than the minute", "told lff;c6 0; = 2, time 0 = 2",
                 "sets 0 " + h + " = 0, time 0 = " + (2 + h) + ", alone 0 = " + (2 + h));
         }
     }
@@ -364,7 +366,7 @@ public final class BoundaryTest {
         test("while they are COST of its CELL or more: two CELLS at once", "told lff;c2 0;c3 0; = 3, time 0 = 1, time 1 = 2");
         test("while they are COST of its CELL or more: eight CELLS at once", "told ldddddddd;c1 0;p0 9;c3 0;p1 9; = 5, time 0 = 1, time 1 = 2");
         test("while they are COST of its CELL or more: what is left counts", "told lfff;c5 0; = 2, time 0 = 3, told lfffd;c5 0; = 2, time 0 = 3");
-        test("the latest of all", "told l" + "u".repeat(16) + ";c9 0; = 2, time 0 = 128, sets 0 5 = 0, time 0 = 133, alone 0 = 133");
+        test("A RACE goes by minutes: the latest of all", "told l" + "u".repeat(16) + ";c9 0; = 2, time 0 = 128, sets 0 5 = 0, time 0 = 133, alone 0 = 133");
         test("(all start in CELL 0)", "told lff;" + "c6 0;".repeat(5) + " = 6, time 0 = 2, time 1 = 2, time 2 = 2, time 3 = 2, time 4 = 2");
     }
 
@@ -379,6 +381,10 @@ public final class BoundaryTest {
         test(held + ": nobody is there", "told lbbbb;c9 0; = 2, time 0 = 24, alone 0 = 24");
         // Chair 0 goes from the first bend to the second one in minute 3; chair 1, right behind it, waits in the first.
         test(held + ": one bend behind another", "told ldbb;c7 0;c1 0; = 3, time 0 = 5, time 1 = 5, alone 1 = 2");
+        test(held + ": five, one behind another", "told lfb;" + "c9 0;".repeat(5) + " = 6, time 0 = 10, time 1 = 15, time 2 = 20, time 3 = 25, time 4 = 30",
+            "place 0 = 0, place 4 = 4, told lfb;c9 0;c9 0; = 3, time 0 = 10, time 1 = 15");
+        // Chair 2 was in the bend when chair 1 won; it isn't there any more.
+        test(held + ": nobody who was told earlier", "told lfbu;c9 0;c1 0;c6 0;p1 9; = 5, now 1 = 1, told lfbu;c9 0;c6 0; = 3, time 1 = 5, alone 1 = 5");
         test("CELL 0 holds all", "told lbf;c8 0;c6 0;c4 0; = 4, time 0 = 5, time 1 = 3, time 2 = 2");
         test("CELL 0 holds all: five", "told lb;" + "c9 0;".repeat(5) + " = 6, time 0 = 6, time 1 = 6, time 2 = 6, time 3 = 6, time 4 = 6");
         // Held in minutes 1 and 2 with 4, in minute 3 it goes on with 9; uncut it would be in in minute 3.
@@ -619,17 +625,17 @@ public final class BoundaryTest {
         test("IMAGES 0, 1: neither is kept", "back 0 = STATE, back 1 = STATE, back -1 = BAD, back 2 = BAD, keep -1 = BAD, keep 2 = BAD");
         test("STATE: none was kept: the other one was", "told c1 0; = 1, keep 0 = 0, back 1 = STATE, back 0 = 0, keep 1 = 0, back 1 = 0");
         test("STATE: none was kept: refused, so all can be UNDONE", "told c1 0; = 1, sets 0 1 = 0, back 0 = STATE, back 2 = BAD, now 6 = 1, undo = 0, chair 0 3 = 0");
-        test("IMAGES keep NOW", "told lf;c1 0;c1 0; = 3, tuesday = 0, changes 0 1 = 1, sets 0 5 = 0, greases 1 1 = 1, keep 0 = 1",
+        test("IMAGES 0, 1 keep NOW", "told lf;c1 0;c1 0; = 3, tuesday = 0, changes 0 1 = 1, sets 0 5 = 0, greases 1 1 = 1, keep 0 = 1",
             "tuesday = 1, changes 0 1 = 0, sets 0 0 = 5, greases 1 0 = 0, keep 1 = 2, back 0 = 1",
             "chair 0 2 = 1, chair 1 2 = 0, chair 0 3 = 5, chair 1 4 = 1, now 0 = 1, chair 0 6 = 1, chair 1 6 = 0",
             "back 1 = 2, chair 0 2 = 0, chair 1 2 = 1, chair 0 3 = 0, chair 1 4 = 0, now 0 = 2, chair 1 6 = 1");
-        test("IMAGES keep NOW: nothing else", "told lf;c1 0; = 2, keep 0 = 0, times 0 9 = 1, rate 0 0 = 1, write ab = 2, back 0 = 0",
+        test("IMAGES 0, 1 keep NOW: nothing else", "told lf;c1 0; = 2, keep 0 = 0, times 0 9 = 1, rate 0 0 = 1, write ab = 2, back 0 = 0",
             "count 2 = 1, trace = 1, count 3 = 2, count 0 = 1, count 1 = 1");
         test("nothing can be UNDONE behind back()", "told c1 0; = 1, sets 0 1 = 0, keep 0 = 0, sets 0 2 = 1, now 6 = 2, back 0 = 0, now 6 = 0",
             "undo = STATE, chair 0 3 = 1, sets 0 3 = 1, now 6 = 1, undo = 0, chair 0 3 = 1, undo = STATE");
         test("nothing can be UNDONE behind back(): but behind keep()", "told c1 0; = 1, sets 0 1 = 0, keep 0 = 0, now 6 = 1, undo = 0, chair 0 3 = 0, back 0 = 0, chair 0 3 = 1");
         test("An IMAGE is kept: over the one that was", "told c1 0; = 1, keep 0 = 0, sets 0 4 = 0, keep 0 = 0, sets 0 1 = 4, back 0 = 0, chair 0 3 = 4");
-        test("An IMAGE stays behind back()", "told c1 0; = 1, sets 0 2 = 0, keep 1 = 0, back 1 = 0, sets 0 5 = 2, back 1 = 0, chair 0 3 = 2");
+        test("All of that becomes as an IMAGE has it: and the IMAGE stays", "told c1 0; = 1, sets 0 2 = 0, keep 1 = 0, back 1 = 0, sets 0 5 = 2, back 1 = 0, chair 0 3 = 2");
         test("An IMAGE is kept: of nothing", "keep 1 = 0, back 1 = 0, back 0 = STATE, count 1 = 0");
     }
 

@@ -18,7 +18,7 @@ public final class RefusalTest {
     /** How an object came to be, and what bounds its numbers have then. */
     private enum Scene {
         NEW("", 0, 0), CHAIRS("c4 1;c2 3;", 0, 2), CELLS("lub;", 2, 0), RACE("lfbu;c4 1;c9 0;c2 3;p1 7;", 3, 3),
-        FULL("lbfud;c4 1;c9 0;c2 3;c1 1;c6 2;p4 7;", 4, 5);
+        FULL("lfbud;c4 1;c9 0;c2 3;c1 1;c6 2;p4 7;", 4, 5);
 
         final String text;
         final int cells;
