@@ -5,6 +5,8 @@ import java.lang.reflect.Modifier;
 import java.nio.file.Files;
 import java.nio.file.Path;
 import java.util.Arrays;
+import java.util.HashMap;
+import java.util.Map;
 import java.util.Set;
 import java.util.TreeSet;
 import java.util.regex.Matcher;
@@ -22,6 +24,7 @@ public final class FaceTest {
     private static final Set<String> CONSTANTS = new TreeSet<>(Arrays.asList("BAD", "STATE", "FULL", "NONE", "NO"));
     private static final Set<String> LIBRARY = new TreeSet<>(Arrays.asList("Math.max", "Math.min", "System.arraycopy",
         "Deeds.TUESDAY", "Deeds.CHANGE", "Deeds.SET", "Deeds.GREASE"));
+    private static final int DEEPEST = 8;
     private static int wrong = 0;
 
     private static void check(boolean holds, String what) {
@@ -34,7 +37,11 @@ public final class FaceTest {
         face();
         for (Class<?> inside : ChairRegents.class.getDeclaredClasses()) insideClass(inside);
         check(ChairRegents.class.getDeclaredClasses().length < 12, "twelve classes at most");
-        source(withoutCommentsAndTexts(Files.readString(Path.of(SOURCE))));
+        String code = withoutCommentsAndTexts(Files.readString(Path.of(SOURCE)));
+        source(code);
+        madeOfNothingHandedOut(code);
+        depthOfCalls(code);
+        readme(Files.readString(Path.of("README.md")));
         System.out.println(wrong == 0 ? "the face and the language are as told" : wrong + " rules are broken");
         if (wrong != 0) System.exit(1);
     }
@@ -121,5 +128,50 @@ public final class FaceTest {
             if (lines[i].matches("( {4}| {8})\\}")) check(i - start <= 60, "sixty lines at most: " + lines[start]);
         }
         check(!Pattern.compile("for \\(;;\\)|while \\(true\\)").matcher(code).find(), "every loop has an end");
+    }
+
+    /** A constructor that is given nothing can be handed no part of the object that makes it. */
+    private static void madeOfNothingHandedOut(String code) {
+        Matcher made = Pattern.compile("\\bnew \\w+[^;]*;").matcher(code);
+        while (made.find()) {
+            check(made.group().matches("new \\w+\\(\\);|new (int|boolean)\\[[A-Z_]+\\];"), "made of nothing: " + made.group());
+        }
+    }
+
+    /** By names alone: methods of one name count as one, which can only make the calls look deeper. */
+    private static void depthOfCalls(String code) {
+        Map<String, String> bodies = new HashMap<>();
+        Matcher head = Pattern.compile("(?m)^ +(?:\\w+ )*(\\w+)\\([^()]*\\) \\{$").matcher(code);
+        while (head.find()) {
+            String indent = head.group().replaceAll("\\S.*", "");
+            int end = code.indexOf("\n" + indent + "}", head.end() - 1);
+            bodies.merge(head.group(1), code.substring(head.end(), end < 0 ? code.length() : end), String::concat);
+        }
+        for (String open : METHODS) {
+            String name = open.replaceAll(".* |\\(.*", "");
+            check(bodies.containsKey(name), "found in the source: " + name);
+            int depth = depthOf(name, bodies, 1);
+            check(depth <= DEEPEST, name + "() goes at most eight deep, not " + depth);
+        }
+    }
+
+    private static int depthOf(String name, Map<String, String> bodies, int depth) {
+        if (depth > DEEPEST) return depth;
+        int deepest = depth;
+        Matcher call = Pattern.compile("\\b(\\w+)\\(").matcher(bodies.get(name));
+        while (call.find()) {
+            if (bodies.containsKey(call.group(1))) deepest = Math.max(deepest, depthOf(call.group(1), bodies, depth + 1));
+            else if (call.group(1).matches("max|min|arraycopy")) deepest = Math.max(deepest, depth + 1);
+        }
+        return deepest;
+    }
+
+    private static void readme(String text) {
+        for (String open : METHODS) {
+            String name = open.replaceAll(".* |\\(.*", "");
+            check(Pattern.compile("(?m)^\\| `" + name + "\\(").matcher(text).find(), "README.md tells of " + name + "()");
+        }
+        for (String constant : CONSTANTS) check(text.contains("`" + constant + "`"), "README.md tells of " + constant);
+        check(text.contains("`bash .ci/run`"), "README.md tells how the tests are run");
     }
 }

@@ -17,15 +17,16 @@ public final class ChairRegents {
     private static final int BEND_COST = 6;
 
     private final Script script = new Script();
-    private final Spa told = new Spa();
     private final Spa draft = new Spa();
-    private final Day today = new Day();
     private final Day firstImage = new Day();
     private final Day secondImage = new Day();
     private final Deeds deeds = new Deeds();
     private final Stopwatch stopwatch = new Stopwatch();
-    private final Forecast forecast = new Forecast(told, today);
-    private final Kinds kinds = new Kinds(told, today);
+    private final Kinds kinds = new Kinds();
+    private final Forecast forecast = new Forecast();
+    // The forecast makes what it reads: a constructor hands out no part of what it makes.
+    private final Spa told = forecast.told;
+    private final Day today = forecast.today;
 
     public ChairRegents() {
     }
@@ -203,12 +204,12 @@ public final class ChairRegents {
     public int rate(int kind, int c) {
         if (!isChair(c)) return NO;
         switch (kind) {
-            case 0: return kinds.asChair(c);
-            case 1: return kinds.asWidow(c);
-            case 2: return kinds.asAunt(c);
-            case 3: return kinds.asPug(c);
-            case 4: return kinds.asVeil(c);
-            case 5: return kinds.asInfant(c);
+            case 0: return kinds.asChair(told, c);
+            case 1: return kinds.asWidow(told, today, c);
+            case 2: return kinds.asAunt(told, today, c);
+            case 3: return kinds.asPug(told, today, c);
+            case 4: return kinds.asVeil(told, today, c);
+            case 5: return kinds.asInfant(told, today, c);
             default: return NO;
         }
     }
@@ -585,17 +586,12 @@ public final class ChairRegents {
         // 16 slopes (128 points) by a gain of 1, and the greatest handicap.
         private static final int LATEST_ALONE = 133;
 
-        private final Spa told;
-        private final Day today;
+        final Spa told = new Spa();
+        final Day today = new Day();
         private final Race race = new Race();
         private final int[] way = new int[MOST_CHAIRS];
         private final int[] kingsWay = new int[MOST_CHAIRS];
         private final int[] unhindered = new int[MOST_CHAIRS];
-
-        Forecast(Spa told, Day today) {
-            this.told = told;
-            this.today = today;
-        }
 
         int winner() {
             return winnerBy(today.pushers, NOBODY);
@@ -842,43 +838,36 @@ public final class ChairRegents {
 
     /** Chairs rated as if of a kind; every body that is asked leaves its mark. */
     private static final class Kinds {
-        private final Spa told;
-        private final Day today;
         long marks;
 
-        Kinds(Spa told, Day today) {
-            this.told = told;
-            this.today = today;
-        }
-
-        int asChair(int c) {
+        int asChair(Spa told, int c) {
             marks += 1;
             return told.weights[c];
         }
 
-        int asWidow(int c) {
+        int asWidow(Spa told, Day today, int c) {
             marks += 10;
-            return asChair(c) + today.handicaps[c];
+            return asChair(told, c) + today.handicaps[c];
         }
 
-        int asAunt(int c) {
+        int asAunt(Spa told, Day today, int c) {
             marks += 100;
-            return asChair(c) - today.gainOf(told, c);
+            return asChair(told, c) - today.gainOf(told, c);
         }
 
-        int asPug(int c) {
+        int asPug(Spa told, Day today, int c) {
             marks += 1000;
-            return 2 * asWidow(c);
+            return 2 * asWidow(told, today, c);
         }
 
-        int asVeil(int c) {
+        int asVeil(Spa told, Day today, int c) {
             marks += 10000;
-            return asAunt(c) + c;
+            return asAunt(told, today, c) + c;
         }
 
-        int asInfant(int c) {
+        int asInfant(Spa told, Day today, int c) {
             marks += 100000;
-            return asChair(c) + today.weeks;
+            return asChair(told, c) + today.weeks;
         }
     }
 }
